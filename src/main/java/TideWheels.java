@@ -544,7 +544,7 @@ public final class TideWheels {
 
     private int weakest(int from, int to) {
         int weakest = sea.strengthAt(start, from, 0);
-        for (int hour = from; hour <= to && hour < HOURS; hour++) {
+        for (int hour = from + 1; hour <= to; hour++) {
             weakest = Math.min(weakest, sea.strengthAt(start, hour, 0));
         }
         return weakest;
@@ -750,17 +750,14 @@ public final class TideWheels {
             super(number, weight);
         }
 
-        @Override
         int kind() {
             return BARNACLED;
         }
 
-        @Override
         int takes() {
             return super.takes() + 1;
         }
 
-        @Override
         int telling(Trace trace) {
             trace.leave(2);
             return super.telling(trace) + 100;
@@ -772,23 +769,19 @@ public final class TideWheels {
             super(number, weight);
         }
 
-        @Override
         int kind() {
             return SAINT;
         }
 
-        @Override
         int takes() {
             return 2 * super.takes();
         }
 
-        @Override
         int telling(Trace trace) {
             trace.leave(3);
             return super.telling(trace) + plainTelling(trace);
         }
 
-        @Override
         int ringing(Trace trace) {
             trace.leave(5);
             return 30;

@@ -132,6 +132,10 @@ public final class PromiseTests {
         putAll(x, 0, 'q', ',', '1', '4', ';', 'w' + 65536, '3');
         due.is("a code is not cut", -105, x.town(0, Towns.INTS, 0, 7));
         due.is("fault of a first fault", 0, x.fault());
+        putAll(x, 0, 'q', ',', '1', '4', ';', 'w', '3');
+        for (int n = 0; n < 7; n++) {
+            due.is("cells behind are not read", -100 - n, x.town(0, Towns.INTS, 0, n));
+        }
         putAll(x, 0, 'q', ',', '1', '4', ';', -1, '3');
         due.is("a code below 0", -105, x.town(0, Towns.INTS, 0, 7));
     }
@@ -231,6 +235,8 @@ public final class PromiseTests {
         due.is("outside", OUTSIDE, x.law(3));
         due.is("stays", 1, x.many(4));
         due.is("goes by it", 11, x.goes(1));
+        due.is("back to 0", 1, x.law(0));
+        due.is("goes by it", 12, x.goes(1));
     }
 
     private static void start() {
@@ -245,6 +251,8 @@ public final class PromiseTests {
         due.is("stays", 1, x.many(5));
         due.is("strength by it", 9, x.strength(0));
         due.is("strength by it", 14, x.strength(2));
+        due.is("back to 0", 1, x.start(0));
+        due.is("strength by it", 14, x.strength(0));
     }
 
     private static void hook() {
@@ -380,6 +388,7 @@ public final class PromiseTests {
         due.is("without the third", 57, x.all(57));
         due.is("without the third", 59, x.all(58));
         due.is("outside", OUTSIDE, x.all(60));
+        due.is("there is no hour 60", NONE, Towns.of("q,15,09;w3;b4;s2;w1").all(59));
         x = Towns.of("q,00;w1");
         due.is("none", NONE, x.all(0));
         x.hook(0, false);
@@ -439,6 +448,7 @@ public final class PromiseTests {
         x.law(2);
         due.is("law 2", 14, x.fewest(0, 0, 59));
         due.is("law 2, goes as it is", 0, x.fewest(3, 0, 59));
+        due.is("all others", 2, Towns.of("q,01;w1;w1").fewest(0, 0, 59));
         // Under law 0 one of a greater number, that takes much, is unhooked rather than two.
         x = Towns.of("q,09;w5;w3;w2;w9");
         due.is("one that takes much", 8, x.fewest(1, 0, 0));
