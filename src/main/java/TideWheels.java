@@ -15,7 +15,7 @@ public final class TideWheels {
 
     private final Row[] sheets = new Row[SHEETS];
     private final Text text = new Text();
-    private final Trace left = new Trace();
+    private final Trace trace = new Trace();
     private final Sea sea = new Sea();
     private final Notes readings = new Notes(MOST_READINGS);
     private final Work[] works = new Work[MOST_WORKS];
@@ -408,12 +408,12 @@ public final class TideWheels {
 
     public int tell(int k) {
         Work work = workOf(k);
-        return work == null ? UNKNOWN : work.telling(left);
+        return work == null ? UNKNOWN : work.telling(trace);
     }
 
     public int ring(int k) {
         Work work = workOf(k);
-        return work == null ? UNKNOWN : work.ringing(left);
+        return work == null ? UNKNOWN : work.ringing(trace);
     }
 
     public int as(int k, int kind) {
@@ -430,7 +430,7 @@ public final class TideWheels {
     }
 
     public int trace() {
-        return left.sum;
+        return trace.sum;
     }
 
     public int fault() {
@@ -584,10 +584,10 @@ public final class TideWheels {
         return late;
     }
 
-    private boolean fits(Stopping stopping, int from, int set) {
+    private boolean fits(Stopping stopping, int firstTide, int set) {
         lateness.forget();
         for (int hour = 0; hour < HOURS; hour++) {
-            lateness.add(set & ~stopping.going(set, sea.strengthAt(from, hour, 0)));
+            lateness.add(set & ~stopping.going(set, sea.strengthAt(firstTide, hour, 0)));
             if (!lateness.isAsRead(readings, hour)) {
                 return false;
             }
