@@ -13,7 +13,7 @@ public final class LanguageTests {
     private static final String[] FORBIDDEN = {"\\bthrow\\b", "\\bthrows\\b", "\\btry\\b", "\\bcatch\\b",
         "\\bsynchronized\\b", "\\bassert\\b", "\\bimport\\b", "\\bpackage\\b", "->", "::", "\\bprotected\\b",
         "\\bstatic\\s*\\{", "\\bvar\\b", "\\bObject\\b", "\\bSystem\\.(?!arraycopy)", "\\bThread\\b",
-        "\\w+Exact\\b", "\\bequals\\b", "\\bhashCode\\b", "\\btoString\\b", "\\bvolatile\\b", "\\bnative\\b"};
+        "\\w+Exact\\b", "\\b(equals|hashCode|toString)\\([^()]*\\) \\{", "\\bvolatile\\b", "\\bnative\\b"};
 
     private static final Due due = new Due("LanguageTests");
 

@@ -37,6 +37,13 @@ final class Towns {
         return answer;
     }
 
+    /** Puts values into a sheet's cells from the first one on. */
+    static void putAll(TideWheels x, int sheet, int... values) {
+        for (int i = 0; i < values.length; i++) {
+            x.put(sheet, i, values[i]);
+        }
+    }
+
     static String repeated(String part, int times) {
         return part.repeat(times);
     }
