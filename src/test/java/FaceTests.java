@@ -1,15 +1,63 @@
+import java.io.IOException;
 import java.lang.reflect.Constructor;
 import java.lang.reflect.Field;
 import java.lang.reflect.Member;
 import java.lang.reflect.Method;
 import java.lang.reflect.Modifier;
+import java.nio.file.Files;
+import java.nio.file.Path;
 import java.util.Arrays;
 import java.util.Set;
 import java.util.TreeSet;
 import java.util.stream.Collectors;
 
-/** The public face is the document's, and nothing else of the class can be seen. */
+/** The public face is the document's, in the program (given as the argument) as well; nothing else can be seen. */
 public final class FaceTests {
+    /** The document's lines, with what the interface says ahead of calls. */
+    private static final String[] LINES = {
+        "public final class TideWheels {",
+        "public static final int UNKNOWN = -1, OUTSIDE = -2, STATE = -3, FULL = -4, NONE = -9;",
+        "public static final long LOST = Long.MIN_VALUE;",
+        "public TideWheels() {",
+        "// ---- 1 the town",
+        "public int town(int sheet, int lane, int i, int n) {",
+        "public int ofWork(int k, int what) {",
+        "public int law(int v) {",
+        "public int start(int v) {",
+        "public int hook(int k, boolean is) {",
+        "public int storm(int hour, int v) {",
+        "public int calm(int k) {",
+        "// ---- 2 hours",
+        "public int strength(int hour) {",
+        "public int goes(int hour) {",
+        "public int late(int k, int hour) {",
+        "public int all(int hour) {",
+        "public int alike(int hour) {",
+        "// ---- 3 hooks, storms",
+        "public int fewest(int k, int from, int to) {",
+        "public int help(int v, int what) {",
+        "public int plan(int sheet, int lane, int i, int n) {",
+        "// ---- 4 how late works were",
+        "public int reading(int k, int hour, int late) {",
+        "public int back(int k) {",
+        "public int starts() {",
+        "public int laws() {",
+        "public int hung() {",
+        "public int freed() {",
+        "public long odds(int k, int hour, int which) {",
+        "// ---- 5 sheets, parts",
+        "public int sheet(int k, int lane, int n) {",
+        "public int lose(int k) {",
+        "public int put(int k, int i, int v) {",
+        "public long cell(int k, int i, int lane) {",
+        "public int copy(int k, int i, int other, int j, int n) {",
+        "public int tell(int k) {",
+        "public int ring(int k) {",
+        "public int as(int k, int kind) {",
+        "public int trace() {",
+        "public int fault() {",
+        "public int many(int what) {"};
+
     private static final String[] METHODS = {
         "int town(int, int, int, int)", "int ofWork(int, int)", "int law(int)", "int start(int)",
         "int hook(int, boolean)", "int storm(int, int)", "int calm(int)", "int strength(int)", "int goes(int)",
@@ -24,7 +72,27 @@ public final class FaceTests {
     private FaceTests() {
     }
 
-    public static void main(String[] args) {
+    public static void main(String[] args) throws IOException {
+        lines(Files.readString(Path.of(args[0])));
+        methods();
+        constructors();
+        constants();
+        parts();
+        due.end();
+    }
+
+    private static void lines(String program) {
+        due.in("the document's lines, each once and one behind another");
+        int ahead = -1;
+        for (String line : LINES) {
+            int place = program.indexOf(line);
+            due.is(line, 1, place > ahead ? 1 : 0);
+            due.is(line + " a second time", -1, place < 0 ? -1 : program.indexOf(line, place + 1));
+            ahead = Math.max(ahead, place);
+        }
+    }
+
+    private static void methods() {
         due.in("methods");
         Set<String> found = new TreeSet<>();
         for (Method method : TideWheels.class.getDeclaredMethods()) {
@@ -34,14 +102,14 @@ public final class FaceTests {
             }
         }
         same(new TreeSet<>(Arrays.asList(METHODS)), found);
+    }
+
+    private static void constructors() {
         due.in("constructors");
         for (Constructor<?> constructor : TideWheels.class.getDeclaredConstructors()) {
             due.is("public", Modifier.PUBLIC, constructor.getModifiers());
             due.is("how many parameters", 0, constructor.getParameterCount());
         }
-        constants();
-        parts();
-        due.end();
     }
 
     private static void constants() {

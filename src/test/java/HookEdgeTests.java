@@ -24,6 +24,7 @@ public final class HookEdgeTests implements Answers {
         ofSeveralSetsTheLeast();
         ofThoseThatAreHooked();
         fewestOfWhatGoes();
+        fewestByTheStart();
         fewestChangesNothing();
     }
 
@@ -44,6 +45,7 @@ public final class HookEdgeTests implements Answers {
         asThatHourBegins();
         oneRowBehindAnother();
         unhookedOrHooked();
+        plansByStartStormsAndLaw();
         firstWrong();
         plansOnEachLane();
     }
@@ -171,6 +173,18 @@ public final class HookEdgeTests implements Answers {
                 due.is("law " + law + ", work " + k, goes ? 1 : 0, x.fewest(k, 0, 0) == 0 ? 1 : 0);
             }
         }
+    }
+
+    private static void fewestByTheStart() {
+        due.in("FEWEST, by the START");
+        TideWheels x = Towns.of("q,10,05;w5;w5");
+        due.is("hour 0", 0, x.fewest(0, 0, 0));
+        due.is("hour 1", 2, x.fewest(0, 1, 1));
+        x.start(1);
+        due.is("hour 0, from tide 1 on", 2, x.fewest(0, 0, 0));
+        due.is("hour 1, from tide 1 on", 0, x.fewest(0, 1, 1));
+        x.storm(0, 5);
+        due.is("hour 0, with a storm", 0, x.fewest(0, 0, 1));
     }
 
     private static void fewestChangesNothing() {
@@ -359,6 +373,22 @@ public final class HookEdgeTests implements Answers {
         due.is("unhooked now", 0, x.ofWork(1, 3));
         x = Towns.of("q,00" + Towns.repeated(";w1", 8));
         due.is("the eighth", 480 - 57, Towns.plan(x, 3, 7));
+    }
+
+    private static void plansByStartStormsAndLaw() {
+        due.in("A PLAN: how LATE all are together, by the START, STORMS, the LAW");
+        TideWheels x = Towns.of("q,01,00;w1");
+        due.is("strength 1 in hour 0", 0, Towns.plan(x, 1, 0));
+        x.start(1);
+        due.is("strength 0 in hour 0", 1, Towns.plan(x, 1, 0));
+        x.storm(0, 1);
+        due.is("a storm in hour 0", 0, Towns.plan(x, 1, 0));
+        x = Towns.of("q,04;w3;w2;w2");
+        due.is("law 0 stops one in hour 0", 1, Towns.plan(x, 1, 0));
+        x.law(2);
+        due.is("law 2 stops two in hour 0", 2, Towns.plan(x, 1, 0));
+        x.law(1);
+        due.is("law 1 stops one in hour 0", 1, Towns.plan(x, 1, 0));
     }
 
     private static void firstWrong() {

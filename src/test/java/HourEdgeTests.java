@@ -52,6 +52,7 @@ public final class HourEdgeTests implements Answers {
 
     private static void lateAlike() {
         alikeFromTheHourItselfOn();
+        alikeCountsFromHour0();
         alikeNever();
         alikeOfNone();
         alikeOfOne();
@@ -401,6 +402,16 @@ public final class HourEdgeTests implements Answers {
         due.is("both stop, both go", 59, x.alike(59));
     }
 
+    private static void alikeCountsFromHour0() {
+        due.in("ALIKE: how LATE they are from HOUR 0 on, not from the HOUR asked");
+        TideWheels x = Towns.of("q,10;w5;w5");
+        x.storm(3, -5);
+        due.is("ahead of the storm", 2, x.alike(2));
+        due.is("the first is 1 late, though all go from then on", NONE, x.alike(4));
+        x.storm(3, -5);
+        due.is("both are 1 late", 4, x.alike(4));
+    }
+
     private static void alikeNever() {
         due.in("promise 13: NONE: never");
         TideWheels x = Towns.of("q,05;w5;w5");
@@ -450,6 +461,10 @@ public final class HourEdgeTests implements Answers {
         due.is("and by law 1", NONE, x.alike(0));
         x.hook(0, false);
         due.is("without it", 0, x.alike(0));
+        x = Towns.of("q,10;w5;w5;w5");
+        due.is("the third makes the first one stop", NONE, x.alike(0));
+        x.hook(2, false);
+        due.is("not when it is unhooked", 0, x.alike(0));
     }
 
     private static void alikeAboveZero() {

@@ -21,6 +21,7 @@ public final class ReadingEdgeTests implements Answers {
         readingsOfNoWork();
         readingHours();
         readingLates();
+        readingsHookedOrNot();
         eightReadings();
         backUpToAll();
         backOfNone();
@@ -28,7 +29,15 @@ public final class ReadingEdgeTests implements Answers {
         setsWithoutReadings();
         eachReadingCounts();
         readingsOfTheFirstAndTheLastHour();
+        allElseIsAsItIs();
         questionsChangeNothing();
+    }
+
+    private static void allElseIsAsItIs() {
+        theStartIsAsItIs();
+        theLawIsAsItIs();
+        stormsAreAsTheyAre();
+        whatIsHookedIsAsItIs();
     }
 
     private static void starts() {
@@ -107,6 +116,22 @@ public final class ReadingEdgeTests implements Answers {
             due.is("late " + late, OUTSIDE, x.reading(0, 0, late));
         }
         due.is("many(3)", 2, x.many(3));
+    }
+
+    private static void readingsHookedOrNot() {
+        due.in("promise 17: of a WORK, HOOKED or not");
+        TideWheels x = Towns.of(FOUR);
+        x.hook(0, false);
+        due.is("the first", 0, x.reading(0, 0, 0));
+        due.is("it is not late", 7, x.starts());
+        due.is("the second", 1, x.reading(0, 59, 60));
+        due.is("nor then", 0, x.starts());
+        due.is("many(3)", 2, x.many(3));
+        x.hook(0, true);
+        due.is("the first is late from hour 0 on", 0, x.starts());
+        x.back(2);
+        due.is("the first again", 0, x.reading(0, 59, 60));
+        due.is("hooked it is so late", 7, x.starts());
     }
 
     private static void eightReadings() {
@@ -221,6 +246,83 @@ public final class ReadingEdgeTests implements Answers {
             due.is(name + ", hung()", reading[2], x.hung());
             due.is(name + ", freed()", reading[1] == 0 ? 1 : 0, x.freed());
         }
+    }
+
+    private static void theStartIsAsItIs() {
+        due.in("one thing alone were otherwise: the START is as it is");
+        TideWheels x = Towns.of("q,09,05;w3;w4;w2");
+        x.reading(0, 0, 0);
+        due.is("laws() from tide 0 on", 7, x.laws());
+        x.start(1);
+        due.is("laws() from tide 1 on", 2, x.laws());
+        x = Towns.of("q,06,05;w5");
+        x.reading(0, 0, 1);
+        due.is("hung() from tide 0 on", 0, x.hung());
+        x.start(1);
+        due.is("hung() from tide 1 on", 1, x.hung());
+        x = Towns.of("q,04,01;w2;w2");
+        x.reading(1, 0, 1);
+        due.is("freed() from tide 0 on", 0, x.freed());
+        x.start(1);
+        due.is("freed() from tide 1 on", 1, x.freed());
+    }
+
+    private static void theLawIsAsItIs() {
+        due.in("one thing alone were otherwise: the LAW is as it is");
+        TideWheels x = Towns.of("q,03;w1;w3;w3");
+        x.reading(0, 0, 0);
+        due.is("starts() by law 0", 0, x.starts());
+        due.is("hung() by law 0", 0, x.hung());
+        due.is("freed() by law 0", 1, x.freed());
+        x.law(1);
+        due.is("starts() by law 1", 1, x.starts());
+        due.is("hung() by law 1", 7, x.hung());
+        due.is("freed() by law 1", 7, x.freed());
+    }
+
+    private static void stormsAreAsTheyAre() {
+        due.in("one thing alone were otherwise: STORMS are as they are");
+        TideWheels x = Towns.of("q,09;w3;w4;w2");
+        x.reading(0, 0, 0);
+        due.is("laws()", 7, x.laws());
+        x.storm(0, -4);
+        due.is("laws() with a storm", 2, x.laws());
+        x = Towns.of("q,06;w5");
+        x.reading(0, 0, 1);
+        due.is("hung()", 0, x.hung());
+        x.storm(0, -1);
+        due.is("hung() with a storm", 1, x.hung());
+        x = Towns.of("q,04;w2;w2");
+        x.reading(1, 0, 1);
+        due.is("freed()", 0, x.freed());
+        due.is("starts()", 0, x.starts());
+        x.storm(0, -3);
+        due.is("freed() with a storm", 1, x.freed());
+        due.is("starts() with a storm", 1, x.starts());
+    }
+
+    private static void whatIsHookedIsAsItIs() {
+        due.in("one thing alone were otherwise: what is HOOKED is as it is");
+        TideWheels x = Towns.of("q,04,02;w2;w2");
+        x.reading(0, 0, 0);
+        due.is("starts() of both", 1, x.starts());
+        x.hook(1, false);
+        due.is("starts() of the first", 3, x.starts());
+        x = Towns.of("q,05;w3;w4;w2");
+        x.reading(0, 0, 0);
+        due.is("laws() of all", 2, x.laws());
+        x.hook(1, false);
+        due.is("laws() without the second", 7, x.laws());
+        x = Towns.of("q,04;w2;w2");
+        x.reading(0, 0, 1);
+        due.is("hung() of both", 3, x.hung());
+        x.hook(1, false);
+        due.is("hung() of the first", 0, x.hung());
+        x.hook(1, true);
+        x.storm(0, -3);
+        due.is("freed() of both", 2, x.freed());
+        x.hook(0, false);
+        due.is("freed() of the second", 0, x.freed());
     }
 
     private static void questionsChangeNothing() {

@@ -56,6 +56,7 @@ public final class SheetEdgeTests implements Answers {
         tellOfKinds();
         ringOfNoWork();
         ringOfKinds();
+        tellAndRingHookedOrNot();
         traceWraps();
     }
 
@@ -63,6 +64,7 @@ public final class SheetEdgeTests implements Answers {
         asOfNoWork();
         asNoKind();
         asOneOfAKind();
+        asHookedOrNot();
     }
 
     private static void faultsAndCounts() {
@@ -506,6 +508,19 @@ public final class SheetEdgeTests implements Answers {
         }
     }
 
+    private static void tellAndRingHookedOrNot() {
+        due.in("promises 29, 30: HOOKED or not");
+        for (int k = 0; k < 3; k++) {
+            TideWheels hooked = Towns.of(THREE);
+            TideWheels x = Towns.of(THREE);
+            due.is("unhook " + k, 1, x.hook(k, false));
+            due.is("tell " + k, hooked.tell(k), x.tell(k));
+            due.is("ring " + k, hooked.ring(k), x.ring(k));
+            due.is("trace()", hooked.trace(), x.trace());
+            due.is("still not hooked", 0, x.ofWork(k, 3));
+        }
+    }
+
     private static void traceWraps() {
         due.in("an int that wraps, 0 at first, becomes 31 times it and the number");
         TideWheels x = Towns.of(THREE);
@@ -557,6 +572,18 @@ public final class SheetEdgeTests implements Answers {
                 due.is("as(" + k + ", " + kind + ")", answers[k][kind], x.as(k, kind));
                 due.is("fault()", answers[k][kind] == 1 ? 0 : 2, x.fault());
             }
+        }
+    }
+
+    private static void asHookedOrNot() {
+        due.in("promise 31: HOOKED or not");
+        TideWheels x = Towns.of(THREE);
+        for (int k = 0; k < 3; k++) {
+            x.hook(k, false);
+            for (int kind = 0; kind < 3; kind++) {
+                due.is("as(" + k + ", " + kind + ")", kind <= k ? 1 : CAST, x.as(k, kind));
+            }
+            due.is("still not hooked", 0, x.ofWork(k, 3));
         }
     }
 

@@ -57,6 +57,7 @@ public final class TownEdgeTests implements Answers {
         noReadings();
         lawAndStartAre0();
         traceAndSheetsStay();
+        sheetsChangedAfterwards();
         fewerAndMoreThanBefore();
     }
 
@@ -455,6 +456,26 @@ public final class TownEdgeTests implements Answers {
         due.is("nothing", 0, x.lose(3));
     }
 
+    private static void sheetsChangedAfterwards() {
+        due.in("A TOWN by a TEXT: what comes to the SHEET afterwards is not the TOWN's");
+        TideWheels x = new TideWheels();
+        x.sheet(0, 0, FOUR.length());
+        for (int i = 0; i < FOUR.length(); i++) {
+            x.put(0, i, FOUR.charAt(i));
+        }
+        due.is("town", 4, x.town(0, 0, 0, FOUR.length()));
+        for (int i = 0; i < FOUR.length(); i++) {
+            x.put(0, i, 'x');
+        }
+        due.is("strength(1)", 9, x.strength(1));
+        due.is("goes(1)", 12, x.goes(1));
+        due.is("ofWork(2, 2)", 6, x.ofWork(2, 2));
+        x.lose(0);
+        due.is("strength(2)", 5, x.strength(2));
+        due.is("goes(2)", 8, x.goes(2));
+        due.is("laws()", 7, x.laws());
+    }
+
     private static void fewerAndMoreThanBefore() {
         due.in("A TEXT that is taken makes all anew");
         TideWheels x = Towns.of(MOST_TEXT);
@@ -575,6 +596,8 @@ public final class TownEdgeTests implements Answers {
                 due.is("start " + v, OUTSIDE, x.start(v));
                 due.is("many(5)", n - 1, x.many(5));
             }
+            due.is("the same again", n - 1, x.start(n - 1));
+            due.is("many(5)", n - 1, x.many(5));
             due.is("the first tide", n - 1, x.start(0));
             due.is("many(5)", 0, x.many(5));
         }

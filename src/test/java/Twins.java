@@ -19,21 +19,37 @@ final class Twins {
     void changesNothing(String name, Supplier<TideWheels> made, ToLongFunction<TideWheels> call, long answer,
             int fault) {
         for (int ahead : FAULTS_AHEAD) {
-            TideWheels called = madeWithFault(made, ahead);
-            due.is(name, answer, call.applyAsLong(called));
-            due.is(name + ", then fault()", fault, called.fault());
-            areAlike(name, made.get(), called);
+            answersSo(name, made, ahead, call, answer, fault);
         }
+        leavesTheTrace(name, made, call);
     }
 
     /** A call that names no faults: it answers so, and all is as it was, fault too. */
     void changesNothing(String name, Supplier<TideWheels> made, ToLongFunction<TideWheels> call, long answer) {
+        changesJustTheTrace(name, made, call, answer);
+        leavesTheTrace(name, made, call);
+    }
+
+    /** A call that names no faults: it answers so, and all but the trace is as it was, fault too. */
+    void changesJustTheTrace(String name, Supplier<TideWheels> made, ToLongFunction<TideWheels> call, long answer) {
         for (int ahead : FAULTS_AHEAD) {
-            TideWheels called = madeWithFault(made, ahead);
-            due.is(name, answer, call.applyAsLong(called));
-            due.is(name + ", then fault()", ahead, called.fault());
-            areAlike(name, made.get(), called);
+            answersSo(name, made, ahead, call, answer, ahead);
         }
+    }
+
+    private void answersSo(String name, Supplier<TideWheels> made, int ahead, ToLongFunction<TideWheels> call,
+            long answer, int fault) {
+        TideWheels called = madeWithFault(made, ahead);
+        due.is(name, answer, call.applyAsLong(called));
+        due.is(name + ", then fault()", fault, called.fault());
+        areAlike(name, seen(made.get()), seen(called));
+    }
+
+    /** Looked at by itself: the calls by which all else is seen might change the trace of both. */
+    private void leavesTheTrace(String name, Supplier<TideWheels> made, ToLongFunction<TideWheels> call) {
+        TideWheels called = made.get();
+        call.applyAsLong(called);
+        due.is(name + ", then trace()", made.get().trace(), called.trace());
     }
 
     /** Comes to a fault that is answered without a town, too; sheet 3 has nothing in what the tests make. */
@@ -50,19 +66,16 @@ final class Twins {
         return x;
     }
 
-    private void areAlike(String name, TideWheels one, TideWheels other) {
-        List<Long> dues = seen(one);
-        List<Long> answers = seen(other);
+    private void areAlike(String name, List<Long> dues, List<Long> answers) {
         due.is(name + " left so much to be seen", dues.size(), answers.size());
         for (int i = 0; i < Math.min(dues.size(), answers.size()); i++) {
             due.is(name + " changed what is seen " + i, dues.get(i), answers.get(i));
         }
     }
 
-    /** All that can be seen of an object but its fault; some 250 calls, and at last neither storms nor readings. */
+    /** All that can be seen of an object but fault and trace; some 250 calls, at last neither storms nor readings. */
     private static List<Long> seen(TideWheels x) {
         List<Long> seen = new ArrayList<>();
-        seen.add((long) x.trace());
         for (int what = 0; what < 6; what++) {
             seen.add((long) x.many(what));
         }

@@ -12,6 +12,7 @@ public final class UnchangedTests {
     public static void main(String[] args) {
         asked();
         takenBack();
+        bodies();
         due.end();
     }
 
@@ -48,6 +49,16 @@ public final class UnchangedTests {
             call.applyAsLong(x);
             return back.applyAsLong(x);
         }, answer);
+    }
+
+    private static void bodies() {
+        due.in("calls that leave numbers in TRACE");
+        for (int k = 0; k < 4; k++) {
+            int work = k;
+            twins.changesJustTheTrace("tell " + k, Made::withAFullTown, x -> x.tell(work),
+                new int[] {3, 104, 104, 1}[k]);
+            twins.changesJustTheTrace("ring " + k, Made::withAFullTown, x -> x.ring(work), new int[] {0, 1, 30, 3}[k]);
+        }
     }
 
     private static void takenBack() {
